@@ -120,6 +120,9 @@ public final class PromiseTest {
         }
         due("weigh(0, 10000)", x.weigh(0, 10000), 35);
         due("weight 4 alone", x.told(0, 8), 1);
+        due("weigh(0, 1)", x.weigh(0, 1), 1);
+        due("weight 0 alone", x.told(0, 4), 1);
+        x.weigh(0, 10000);
         due("weight 0 then", x.told(0, 4), 0);
         due("weigh(0, 99999)", x.weigh(0, 99999), 1);
         for (int digits : new int[] {0, -1, 100000, Integer.MIN_VALUE, Integer.MAX_VALUE}) {
@@ -220,7 +223,8 @@ public final class PromiseTest {
             "learn 1<@not 2" + rest, "learn -@not 2" + rest, "learn 1 or @or 2" + rest, "learn 1 and@;",
             "learn 1+@+2" + rest, "learn 1*@*2" + rest, "learn 1*-2--3" + rest, "learn (1@;", "learn (1@",
             "learn 1@)" + rest, "learn (@)" + rest, "learn @stepclass" + rest, "learn 1 @left" + rest,
-            "learn left" + rest, "learn @moves" + rest, "learn @mov" + rest, "learn moved@1" + rest, "learn 1 @12345" + rest};
+            "learn left" + rest, "learn @moves" + rest, "learn @mov" + rest, "learn @stepz" + rest,
+            "learn @astep" + rest, "learn 1;right 1;end @zstep", "learn moved@1" + rest, "learn 1 @12345" + rest};
         for (String marked : all) {
             fault(marked);
         }
@@ -561,6 +565,9 @@ public final class PromiseTest {
         due("class ahead of the week teaches", x.mean(0, 4), x.mean(0, 5), 10, 1);
         // k right of the first four weeks: two of them, 6 of 16
         due("by marks", x.mean(0, 0), x.mean(0, 1), 15, 4);
+        x = ruled("learn 10*(week=1)*(class=0 or class=4);right 5;end step*10;");
+        x.pupil(0, 200);
+        due("by one class a week", x.mean(0, 4), x.mean(0, 5), 0, 1);
         x = ruled("learn sort*5;right 5;end step*10;");
         x.pupil(0, 0);
         x.pupil(0, 20);
@@ -666,6 +673,15 @@ public final class PromiseTest {
         row(x, 0, 0, 100, 100);
         due("alike", x.room(3, 1, 0), 1);
         due("room of no pupils", roomOfNone(), 0);
+        x = ruled("learn 0;right 10*(step=0);end 0;");
+        x.pupil(2, 100);
+        x.pupil(2, 100);
+        x.weigh(1, 19);
+        row(x, 0, 0, 100, 0);
+        due("one by marks that can't be", x.room(3, 1, 0), 2);
+        due("both", x.room(3, 2, 0), 3);
+        row(x, 0, 0, 100, 101);
+        due("of like ones the least, by marks that can't be", x.room(3, 1, 0), 1);
         tenthousandths();
     }
 
@@ -793,7 +809,6 @@ public final class PromiseTest {
             due("test of " + far, x.test(far, 0), BAD);
         }
         due("test of none", x.test(1, 0), BAD);
-        // 1111 + 8888 are 9999, 1112 + 8888 are 10000
         x = ruled("learn 5;right 5;end 0;");
         x.pupil(0, 0);
         x.weigh(0, 1);
@@ -807,6 +822,14 @@ public final class PromiseTest {
         due("a test of 3 weeks", x.test(0, 300), 0);
         due("8192 in all", x.count(4), 8192);
         due("a test of 1 week", x.test(0, 100), STATE);
+        // 6561 + 2744 + 500 + 189 + 5 are 9999
+        x = ruled("learn 0;right 9-step*2;end 0;");
+        x.pupil(2, 0);
+        x.weigh(0, 67489);
+        due("10000 in all", x.test(0, 307), STATE);
+        x.weigh(0, 57489);
+        due("9999 in all", x.test(0, 307), 0);
+        weights("9999 in all", x, 0, 6561, 2744, 500, 189, 5);
     }
 
     private static void cut() {
