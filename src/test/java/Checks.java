@@ -11,6 +11,23 @@ final class Checks {
         }
     }
 
+    /** Two texts that must be the same; tells from where on they are not. */
+    void same(String what, String got, String want) {
+        all++;
+        if (!got.equals(want)) {
+            wrong++;
+            int at = 0;
+            while (at < got.length() && at < want.length() && got.charAt(at) == want.charAt(at)) {
+                at++;
+            }
+            System.out.println(what + " is not as due from sign " + at + " on: " + cut(got, at) + ", due is " + cut(want, at));
+        }
+    }
+
+    private static String cut(String s, int at) {
+        return s.substring(Math.max(0, at - 20), Math.min(s.length(), at + 40));
+    }
+
     /** A fraction whose parts were asked one by one. */
     void due(String call, long above, long below, long wantAbove, long wantBelow) {
         due(call + " above", above, wantAbove);
