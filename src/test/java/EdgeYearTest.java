@@ -159,6 +159,8 @@ public final class EdgeYearTest {
         due("two", x.room(7, 2, 0), 5);
         due("three", x.room(7, 3, 0), 7);
         due("of those that are never so", x.room(3, 1, 0), 1);
+        Edges.row(x, 0, 1, 0, 100, 0);
+        due("of like ones the least, the other by marks that can't be", x.room(3, 1, 0), 1);
         EDGES.sentence("ROOM: (in tenthousandths, cut)");
         // 127 of 143 and 143 of 161 behind a right week: 8881 both; 142 of 161 are 8819
         x = Edges.ruled("learn 0;right 2+step;end 0;");
